@@ -262,7 +262,7 @@ public final class StageRatios {
         if (!isPower(power)) {
             return refuse(A_NUMBER);
         }
-        prepareChoice();
+        choice.prepare(current, now, weights);
         int best = choice.best(power);
         return answer(best < 0 ? NOTHING : choice.weightOf(best));
     }
@@ -274,7 +274,7 @@ public final class StageRatios {
         if (!isPower(power)) {
             return refuse(A_NUMBER);
         }
-        prepareChoice();
+        choice.prepare(current, now, weights);
         int best = choice.best(power);
         return answer(best < 0 ? NOTHING : Choice.unitsOf(best, s));
     }
@@ -283,7 +283,7 @@ public final class StageRatios {
         if (!told) {
             return refuse(NO_SUCH);
         }
-        prepareChoice();
+        choice.prepare(current, now, weights);
         return answer(choice.highestPower());
     }
 
@@ -291,7 +291,7 @@ public final class StageRatios {
         if (!told) {
             return refuse(NO_SUCH);
         }
-        prepareChoice();
+        choice.prepare(current, now, weights);
         return answer(choice.heaviestLoad(current, at(now, AT_POWER), weights));
     }
 
@@ -299,7 +299,7 @@ public final class StageRatios {
         if (!has(s)) {
             return refuse(NO_SUCH);
         }
-        prepareChoice();
+        choice.prepare(current, now, weights);
         int best = choice.best(at(now, AT_POWER));
         choice.bound(s, 0, 0);
         int without = choice.best(at(now, AT_POWER));
@@ -313,7 +313,7 @@ public final class StageRatios {
         if (!told) {
             return refuse(NO_SUCH);
         }
-        prepareChoice();
+        choice.prepare(current, now, weights);
         outline.draw(current, at(now, AT_PAYLOAD));
         return answer(outline.count);
     }
@@ -322,7 +322,7 @@ public final class StageRatios {
         if (!told || i < 0 || what < 0 || what > 4) {
             return refuse(NO_SUCH);
         }
-        prepareChoice();
+        choice.prepare(current, now, weights);
         outline.draw(current, at(now, AT_PAYLOAD));
         if (i >= outline.count) {
             return refuse(NO_SUCH);
@@ -341,7 +341,7 @@ public final class StageRatios {
         if (!told) {
             return refuse(NO_SUCH);
         }
-        prepareChoice();
+        choice.prepare(current, now, weights);
         outline.draw(current, at(now, AT_PAYLOAD));
         weighAsItIs();
         weights.speedInto(current, ratio);
@@ -372,7 +372,7 @@ public final class StageRatios {
         if (!isPower(power)) {
             return refuse(A_NUMBER);
         }
-        prepareChoice();
+        choice.prepare(current, now, weights);
         return answer(choice.extreme(power, s, upper));
     }
 
@@ -383,7 +383,7 @@ public final class StageRatios {
         if (!isPower(power)) {
             return refuse(A_NUMBER);
         }
-        prepareChoice();
+        choice.prepare(current, now, weights);
         return answer(choice.count(power));
     }
 
@@ -506,7 +506,7 @@ public final class StageRatios {
         if (!told) {
             return refuse(NO_SUCH);
         }
-        prepareChoice();
+        choice.prepare(current, now, weights);
         int best = choice.best(at(now, AT_POWER));
         if (best < 0) {
             return refuse(NOT_SO);
@@ -651,14 +651,6 @@ public final class StageRatios {
         return scale.powerOf(ratio, current.upper, current.lower);
     }
 
-    /** Lays THE BOX as it is and what all DIVISIONS weigh and reach with PAYLOAD as it is. */
-    private void prepareChoice() {
-        for (int s = 0; s < MOST_STAGES; s++) {
-            choice.bound(s, at(now, AT_LOW + s), at(now, AT_HIGH + s));
-        }
-        choice.prepare(current, at(now, AT_PAYLOAD), weights);
-    }
-
     private void flyAsItIs() {
         weighAsItIs();
         course.fly(current, weights, NONE, 0);
@@ -740,7 +732,7 @@ public final class StageRatios {
             step();
         }
 
-        /** Goes on to the next TOKEN. */
+        /** Goes on to the next TOKEN: bytes that stand together are one, so a run that is too long is none at all. */
         void step() {
             while (next < end && byteAt(next) == ' ') {
                 next++;
@@ -748,20 +740,16 @@ public final class StageRatios {
             place = next;
             value = 0;
             kind = next < end ? kindOf(byteAt(next)) : END;
-            if (kind == WORD || kind == WHOLE) {
-                takeRun();
-            } else if (kind != END) {
-                next++;
+            boolean word = kind == WORD;
+            if (!word && kind != WHOLE) {
+                next += kind == END ? 0 : 1;
+                return;
             }
-        }
-
-        /** Bytes that stand together are one TOKEN, so a run that is too long is none at all. */
-        private void takeRun() {
             while (next < end && kindOf(byteAt(next)) == kind) {
-                value = kind == WORD ? withLetter(value, byteAt(next)) : value * 10 + byteAt(next) - '0';
+                value = word ? withLetter(value, byteAt(next)) : value * 10 + byteAt(next) - '0';
                 next++;
             }
-            if (next - place > (kind == WORD ? LONGEST_WORD : LONGEST_WHOLE)) {
+            if (next - place > (word ? LONGEST_WORD : LONGEST_WHOLE)) {
                 kind = STRANGE;
             }
         }
@@ -808,6 +796,9 @@ public final class StageRatios {
         private final long rocketWord = Tape.numberOf("rocket");
         private final long stageWord = Tape.numberOf("stage");
         private final long failWord = Tape.numberOf("fail");
+        private final long solidWord = Tape.numberOf("solid");
+        private final long oilWord = Tape.numberOf("oil");
+        private final long gasWord = Tape.numberOf("gas");
         private boolean begun = false;
         private int taken = 0;
         int number = 0;
@@ -970,14 +961,14 @@ public final class StageRatios {
             return true;
         }
 
-        private static int gradeOf(long word) {
-            if (word == Tape.numberOf("solid")) {
+        private int gradeOf(long word) {
+            if (word == solidWord) {
                 return Rocket.SOLID;
             }
-            if (word == Tape.numberOf("oil")) {
+            if (word == oilWord) {
                 return Rocket.OIL;
             }
-            return word == Tape.numberOf("gas") ? Rocket.GAS : 0;
+            return word == gasWord ? Rocket.GAS : 0;
         }
 
         private boolean takeWord(String word) {
@@ -1221,7 +1212,11 @@ public final class StageRatios {
         }
 
         /** The cells hang on ROCKET and PAYLOAD alone, so they are kept until one of these changes. */
-        void prepare(Rocket rocket, int load, Weights weights) {
+        void prepare(Rocket rocket, int[] now, Weights weights) {
+            for (int s = 0; s < MOST_STAGES; s++) {
+                bound(s, at(now, AT_LOW + s), at(now, AT_HIGH + s));
+            }
+            int load = at(now, AT_PAYLOAD);
             if (known == load) {
                 return;
             }
