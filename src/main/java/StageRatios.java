@@ -50,6 +50,7 @@ public final class StageRatios {
     private Rocket draft;
     private boolean told;
     private int kept;
+    private int changes;
     private int trouble;
     private int latestFault;
 
@@ -71,6 +72,7 @@ public final class StageRatios {
         draft = new Rocket();
         told = false;
         kept = 0;
+        changes = 0;
         trouble = 0;
         latestFault = 0;
     }
@@ -314,7 +316,7 @@ public final class StageRatios {
             return refuse(NO_SUCH);
         }
         choice.prepare(current, now, weights);
-        outline.draw(current, at(now, AT_PAYLOAD));
+        outline.draw(current, at(now, AT_PAYLOAD), changes);
         return answer(outline.count);
     }
 
@@ -323,7 +325,7 @@ public final class StageRatios {
             return refuse(NO_SUCH);
         }
         choice.prepare(current, now, weights);
-        outline.draw(current, at(now, AT_PAYLOAD));
+        outline.draw(current, at(now, AT_PAYLOAD), changes);
         if (i >= outline.count) {
             return refuse(NO_SUCH);
         }
@@ -342,7 +344,7 @@ public final class StageRatios {
             return refuse(NO_SUCH);
         }
         choice.prepare(current, now, weights);
-        outline.draw(current, at(now, AT_PAYLOAD));
+        outline.draw(current, at(now, AT_PAYLOAD), changes);
         weighAsItIs();
         weights.speedInto(current, ratio);
         for (int i = 0; i < outline.count; i++) {
@@ -544,6 +546,7 @@ public final class StageRatios {
             return false;
         }
         kept--;
+        changes++;
         for (int i = 0; i < ROW; i++) {
             put(now, i, at(past, kept * ROW + i));
         }
@@ -597,6 +600,7 @@ public final class StageRatios {
     }
 
     private void layFirst() {
+        changes++;
         put(now, AT_PAYLOAD, current.firstPayload);
         put(now, AT_POWER, current.firstPower);
         for (int s = 0; s < MOST_STAGES; s++) {
@@ -619,6 +623,7 @@ public final class StageRatios {
             put(past, kept * ROW + i, at(now, i));
         }
         kept++;
+        changes++;
     }
 
     private int change(int place, int value) {
@@ -1336,6 +1341,7 @@ public final class StageRatios {
         private final int[] byMass = new int[MASSES];
         final int[] codes = new int[MASSES];
         int count = 0;
+        private int drawn = 0;
         private final Choice choice;
         private final Scale scale;
         private final Weights weights = new Weights();
@@ -1347,7 +1353,12 @@ public final class StageRatios {
             this.scale = scale;
         }
 
-        void draw(Rocket rocket, int load) {
+        /** It hangs on what the ACTS and a new ROCKET change, so it stands until the next of these. */
+        void draw(Rocket rocket, int load, int changes) {
+            if (drawn == changes) {
+                return;
+            }
+            drawn = changes;
             for (int m = 0; m < byMass.length; m++) {
                 byMass[m] = NONE;
             }
@@ -1490,6 +1501,19 @@ public final class StageRatios {
             }
         }
 
+        /** The product with the small errors of a double. */
+        double roughly() {
+            double product = 1;
+            for (int i = 0; i < count; i++) {
+                double base = at(bases, i);
+                int times = at(powers, i);
+                for (int left = Math.abs(times); left > 0 && base > 0; left--) {
+                    product = times > 0 ? product * base : product / base;
+                }
+            }
+            return product;
+        }
+
         /** Numerator (upper) or denominator in lowest terms, prime by prime. */
         int lowest(boolean upper) {
             for (int i = 0; i < count; i++) {
@@ -1522,11 +1546,22 @@ public final class StageRatios {
 
     /** Compares exact ratios with one another and with powers of MARK. */
     private static final class Scale {
+        /** Rough products are off by less than a millionth of this: only nearer ones are weighed exactly. */
+        private static final double NEAR = 1e-8;
+
         private final Big left = new Big();
         private final Big right = new Big();
 
         /** 1 if one is above the other, -1 below, 0 like. */
         int compare(Ratio one, Ratio other) {
+            double first = one.roughly();
+            double second = other.roughly();
+            if (first > second + second * NEAR) {
+                return 1;
+            }
+            if (first < second - second * NEAR) {
+                return -1;
+            }
             left.setOne();
             right.setOne();
             one.multiplyInto(left, right);
@@ -1536,16 +1571,32 @@ public final class StageRatios {
 
         /** The greatest power, HIGHEST at most, of upper by lower that is no greater; NOTHING if not 0's. */
         int powerOf(Ratio ratio, int upper, int lower) {
+            double reached = ratio.roughly();
+            double step = lower > 0 ? (double) upper / lower : 1;
+            double wanted = 1;
+            int found = NOTHING;
+            for (int k = 0; k <= HIGHEST; k++) {
+                if (reached < wanted - wanted * NEAR) {
+                    return found;
+                }
+                if (reached <= wanted + wanted * NEAR && !isNoLess(ratio, upper, lower, k)) {
+                    return found;
+                }
+                found = k;
+                wanted *= step;
+            }
+            return found;
+        }
+
+        private boolean isNoLess(Ratio ratio, int upper, int lower, int k) {
             left.setOne();
             right.setOne();
             ratio.multiplyInto(left, right);
-            int found = NOTHING;
-            for (int k = 0; k <= HIGHEST && left.compare(right) >= 0; k++) {
-                found = k;
+            for (int i = 0; i < k; i++) {
                 left.multiply(lower);
                 right.multiply(upper);
             }
-            return found;
+            return left.compare(right) >= 0;
         }
     }
 
