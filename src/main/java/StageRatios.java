@@ -1546,7 +1546,7 @@ public final class StageRatios {
 
     /** Compares exact ratios with one another and with powers of MARK. */
     private static final class Scale {
-        /** Rough products are off by less than a millionth of this: only nearer ones are weighed exactly. */
+        /** Rough products are off by far less than this: only nearer ones are weighed exactly. */
         private static final double NEAR = 1e-8;
 
         private final Big left = new Big();
