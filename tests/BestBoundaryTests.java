@@ -47,6 +47,9 @@ public final class BestBoundaryTests extends Check {
     sentence("II, 17: for 0 any that HOLDS, without FUEL too");
     only("least(0)", () -> with(TWO.replace("least 150", "least 0").replace("least 60", "least 0")), x -> x.least(0), 11);
 
+    only("fuel(0, 0)", () -> with(FIVE), x -> x.fuel(0, 0), 0);
+    only("fuel(0, 1)", () -> with(ALIKE), x -> x.fuel(0, 1), 0);
+
     sentence("II: of like ones that of the least FUEL of STAGE 0, then 1, and so on");
     for (int s = 0; s < 3; s++) {
       int of = s;
@@ -233,24 +236,32 @@ public final class BestBoundaryTests extends Check {
 
   private static void beaten() {
     sentence("24: weighs no less, and has no more SPEED, than some other one of THE FRONT (a MASS less, or SPEED more)");
-    only("it is of THE FRONT itself", () -> loaded(FIVE, 4), x -> x.beaten(), 0);
-    only("like SPEED, a MASS less", () -> loaded(ALIKE, 0, 1), x -> x.beaten(), 1);
-    only("like MASS, SPEED more", () -> loaded(LIKE, 0, 1, 0), x -> x.beaten(), 1);
+    only("it is of THE FRONT itself", () -> loaded(FIVE, 4), y -> y.beaten(), 0);
+    only("like SPEED, a MASS less", () -> loaded(ALIKE, 0, 1), y -> y.beaten(), 1);
+    only("like MASS, SPEED more", () -> loaded(LIKE, 0, 1, 0), y -> y.beaten(), 1);
     String tie = head(1, 3, 2, 1, 0) + stage("a oil", 4, 0, 3, 1, 9, 1, 0, 0) + stage("b oil", 1, 1, 1, 1, 9, 1, 0, 0);
-    only("like MASS, like SPEED", () -> loaded(tie, 2, 0), x -> x.beaten(), 0);
-    only("the one of THE FRONT that is like it", () -> loaded(tie, 0, 1), x -> x.beaten(), 0);
-    only("less MASS, SPEED more", () -> laid(boxed(LIKE, 0, 0, 0, 0, 0, 1), 1, 0, 0), x -> x.beaten(), 1);
-    only("more SPEED than all of THE FRONT", () -> boxed(LIKE, 0, 0, 0, 0, 0, 1), x -> x.beaten(), 0);
-    only("less MASS than all of THE FRONT", () -> laid(boxed(LIKE, 1, 1, 1, 1, 1, 1), 0, 0, 0), x -> x.beaten(), 0);
-    only("it doesn't HOLD: like MASS, like SPEED aren't there", () -> loaded(FIVE, 5), x -> x.beaten(), 0);
-    only("no FRONT", () -> boxed(FIVE, 5, 5), x -> x.beaten(), 0);
+    only("like MASS, like SPEED", () -> loaded(tie, 2, 0), y -> y.beaten(), 0);
+    only("the one of THE FRONT that is like it", () -> loaded(tie, 0, 1), y -> y.beaten(), 0);
+    only("less MASS, SPEED more", () -> laid(boxed(LIKE, 0, 0, 0, 0, 0, 1), 1, 0, 0), y -> y.beaten(), 1);
+    only("more SPEED than all of THE FRONT", () -> boxed(LIKE, 0, 0, 0, 0, 0, 1), y -> y.beaten(), 0);
+    only("less MASS than all of THE FRONT", () -> laid(boxed(LIKE, 1, 1, 1, 1, 1, 1), 0, 0, 0), y -> y.beaten(), 0);
+    StageRatios x = with(LIKE);
+    due("fronts()", x.fronts(), 4);
+    x.bounds(2, 0, 1);
+    x.bounds(1, 0, 0);
+    x.bounds(0, 0, 0);
+    laid(x, 1, 1, 0);
+    due("only by what THE FRONT as it was had", x.beaten(), 0);
+    due("fronts()", x.fronts(), 2);
+    only("it doesn't HOLD: like MASS, like SPEED aren't there", () -> loaded(FIVE, 5), y -> y.beaten(), 0);
+    only("no FRONT", () -> boxed(FIVE, 5, 5), y -> y.beaten(), 0);
     // its SPEED is below that of MASS 85 by 8.4 of 10 to 10
     only("a MASS less, a little more SPEED", () -> laid(boxed(head(37, 3, 2, 1, 0) + stage("a oil", 27, 21, 12, 1, 9, 1, 0, 0)
-        + stage("b solid", 1, 52, 16, 1, 9, 1, 0, 0), 12, 12, 3, 3), 8, 7), x -> x.beaten(), 1);
+        + stage("b solid", 1, 52, 16, 1, 9, 1, 0, 0), 12, 12, 3, 3), 8, 7), y -> y.beaten(), 1);
     // its SPEED is above that of MASS 150 by 1.6 of 10 to 8
     only("a MASS less, a little less SPEED", () -> laid(boxed(head(13, 3, 2, 1, 0) + stage("a gas", 25, 38, 7, 1, 9, 1, 0, 0)
-        + stage("b solid", 38, 39, 11, 1, 9, 1, 0, 0) + stage("c solid", 49, 50, 13, 1, 9, 1, 0, 0), 5, 5, 0, 0, 4, 4), 3, 0, 6), x -> x.beaten(), 0);
-    refused("beaten() without a ROCKET", StageRatios::new, x -> x.beaten(), -1, 1);
+        + stage("b solid", 38, 39, 11, 1, 9, 1, 0, 0) + stage("c solid", 49, 50, 13, 1, 9, 1, 0, 0), 5, 5, 0, 0, 4, 4), 3, 0, 6), y -> y.beaten(), 0);
+    refused("beaten() without a ROCKET", StageRatios::new, y -> y.beaten(), -1, 1);
   }
 
   private static void boxAndRange() {

@@ -185,6 +185,11 @@ public final class DivisionBoundaryTests extends Check {
         + stage("c oil", 21, 9, 13, 1, 1, 1, 0, 0), 3, 0, 13);
     due("reaches(28)", x.reaches(28), 0);
     due("greatest()", x.greatest(), 27);
+    // of 97 by 66, squared, less by 3.8 of 10 to 9, and of 89 by 69, squared, by 3 of 10 to 10
+    x = with(head(5, 97, 66, 2, 0) + stage("a oil", 22, 0, 8, 1, 1, 1, 0, 0) + stage("b solid", 24, 0, 6, 1, 1, 1, 0, 0));
+    due("reaches(2)", x.reaches(2), 0);
+    x = with(head(37, 89, 69, 2, 0) + stage("a oil", 33, 0, 11, 1, 1, 1, 0, 0) + stage("b oil", 31, 0, 5, 1, 1, 1, 0, 0));
+    due("reaches(2)", x.reaches(2), 0);
 
     sentence("12: a power (0 .. 40)");
     only("reaches(0)", Check::busy, y -> y.reaches(0), 1);
@@ -256,6 +261,9 @@ public final class DivisionBoundaryTests extends Check {
     only("richer(1, 2) a little above", () -> loaded(above, 12, 3, 2), x -> x.richer(1, 2), 1);
     only("richer(2, 1) a little below", () -> loaded(above, 12, 3, 2), x -> x.richer(2, 1), -1);
 
+    only("richer(0, 2) far below", () -> loaded(below, 0, 0, 0), x -> x.richer(0, 2), -1);
+    only("richer(2, 0) far above", () -> loaded(below, 0, 0, 0), x -> x.richer(2, 0), 1);
+
     sentence("16: -2: 5 (either has MOST): this one, that one, both; one less than MOST is not");
     refused("this one", () -> loaded(below, 16, 14, 12), x -> x.richer(0, 1), -2, 5);
     refused("that one", () -> loaded(below, 16, 14, 12), x -> x.richer(1, 0), -2, 5);
@@ -273,7 +281,31 @@ public final class DivisionBoundaryTests extends Check {
     refused("richer(0, 1) without a ROCKET", StageRatios::new, y -> y.richer(0, 1), -2, 1);
   }
 
+  private static void asItIs() {
+    sentence("8 to 16, 24, 28 to 33, 40: the division as it is: right behind an ACT, each call alone");
+    String text = head(10, 4, 3, 1, 1) + stage("a solid", 5, 0, 5, 1, 79, 5, 400, 0);
+    Ask[] calls = {x -> x.part(0, 3), x -> x.part(0, 1), x -> x.margin(0, 0), x -> x.spare(0), x -> x.mass(), x -> x.reaches(2), x -> x.greatest(),
+        x -> x.speed(true), x -> x.speed(false), x -> x.holds(), x -> x.beaten(), x -> x.flight(0), x -> x.tick(1, 1), x -> x.risk(0, 1),
+        x -> x.riskiest(), x -> x.flown(true), x -> x.stage(0, 9), x -> weakOf(x, 0)};
+    int[] full = {0, 20, 395, -2, 20, 1, 2, 16, 9, 0, 0, 1, 20, -2, 1, 8, 5, 0};
+    int[] four = {1, 19, 415, 0, 19, 0, 1, 361, 225, 1, 0, 1, 19, -2, 1, 361, 5, THROWN};
+    int[] none = {1, 15, 526, 0, 15, 0, 0, 1, 1, 1, 0, 0, -1, 0, -2, 1, 5, THROWN};
+    for (int i = 0; i < calls.length; i++) {
+      StageRatios x = with(text);
+      due("call " + i + " with all", calls[i].of(x), full[i]);
+      x.load(0, 4);
+      due("call " + i + " with 4", calls[i].of(x), four[i]);
+      x.load(0, 0);
+      due("call " + i + " with none", calls[i].of(x), none[i]);
+      x.undo();
+      due("call " + i + " undone", calls[i].of(x), four[i]);
+      x.load(0, 5);
+      due("call " + i + " with all again", calls[i].of(x), full[i]);
+    }
+  }
+
   public static void main(String[] args) {
+    asItIs();
     shells();
     weights();
     margins();

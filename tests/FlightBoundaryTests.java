@@ -42,6 +42,18 @@ public final class FlightBoundaryTests extends Check {
     burns(burn("oil", 3, 1, 6, 0) + fail("a", 1, 1) + fail("a", 2, 9), 4, 3, 6, 2, 6, 0);
     burns(burn("oil", 9, 1, 16, 0) + fail("a", 1, 8), 0, 8, 17, 1, 16, 1, 15, 1, 14, 1, 13, 1, 12, 1, 11, 1, 10, 1, 9, 1, 8, 1, 7, 1, 6, 1, 5, 1, 4, 1, 3, 1, 2, 1);
     burns(burn("oil", 9, 1, 16, 0) + fail("a", 1, 9), 16, 9, 18, 0);
+    sentence("I, III: the sixth of six fails counts, and a seventh isn't there from a ROCKET ahead");
+    String pair = head(1, 3, 2, 1, 0) + stage("a solid", 1, 0, 1, 1, 1, 1, 0, 0) + stage("b oil", 1, 0, 6, 4, 1, 1, 0, 0);
+    String five = fail("a", 1, 9) + fail("a", 2, 9) + fail("a", 3, 9) + fail("b", 1, 1) + fail("a", 4, 9);
+    burns(pair + five + fail("b", 2, 2), 0, 3, 9, 1, 5, 3, 4, 1, 3, 1, 2, 1);
+    x = with(pair + five + fail("b", 2, 2));
+    lay(x, pair + five + fail("b", 2, 2));
+    lay(x, pair);
+    due("stopped without fails", x.flight(4), 0);
+    due("TICKS", x.flight(0), 3);
+    lay(x, pair + fail("b", 1, 1));
+    due("stopped by one", x.flight(4), 1);
+
     sentence("III: solid ones don't stop");
     burns(burn("solid", 2, 1, 6, 0) + fail("a", 1, 9) + fail("a", 2, 1), 0, 0, 6, 2, 4, 2, 2, 2);
     sentence("III: oil and gas do");
@@ -152,6 +164,16 @@ public final class FlightBoundaryTests extends Check {
     String ten = head(8, 3, 2, 1, 9) + stage("a solid", 1, 0, 1, 1, 1, 1, 0, 0);
     only("flown(true)", () -> with(ten), y -> y.flown(true), 10);
     only("flown(false)", () -> with(ten), y -> y.flown(false), 9);
+    sentence("III, 33: of three STAGES, with the most TICKS there are");
+    String three = head(1, 3, 2, 1, 2) + stage("a oil", 1, 0, 2, 1, 1, 1, 0, 0) + stage("b oil", 1, 0, 2, 1, 1, 1, 0, 0) + stage("c oil", 1, 0, 2, 1, 1, 1, 0, 0);
+    // 4 by 2, 7 by 5 and 10 by 8, cubed, and 2 by 3, to 6
+    only("flown(true)", () -> with(three), y -> y.flown(true), 2744);
+    only("flown(false)", () -> with(three), y -> y.flown(false), 729);
+    only("flight(5)", () -> with(three), y -> y.flight(5), 3);
+    String most = three.replace("most 2", "most 16").replace("pull 2", "pull 99");
+    only("flown(true)", () -> with(most), y -> y.flown(true), 47214);
+    only("flown(false)", () -> with(most), y -> y.flown(false), 148589);
+    only("flight(5)", () -> with(most), y -> y.flight(5), 22);
     sentence("33: modulo 1,000,003, next to it on either side");
     // 100 by 91 and 101 by 91, cubed
     String cubed = head(40, 3, 2, 1, 0) + stage("a oil", 50, 1, 10, 9, 1, 9, 0, 0);
@@ -177,6 +199,9 @@ public final class FlightBoundaryTests extends Check {
     only("as much as 1's", () -> with(twice), y -> y.flight(5), 1);
     only("less than 1's", () -> with(twice.replace("2 by 1", "99 by 49")), y -> y.flight(5), 0);
     only("more than 1's", () -> with(twice.replace("2 by 1", "97 by 49")), y -> y.flight(5), 1);
+    // 10 by 9, squared, by 9 by 10
+    only("as much as 1's, with PULL 9", () -> with(ten.replace("3 by 2", "10 by 9")), y -> y.flight(5), 1);
+    only("less than 1's, with PULL 9", () -> with(ten.replace("3 by 2", "9 by 8")), y -> y.flight(5), 0);
     String fine = burn("solid", 1, 9, 2, 0).replace("3 by 2", "99 by 98");
     only("11 by 9, squared: 39", () -> with(fine.replace("payload 1", "payload 8")), y -> y.flight(5), 39);
     only("27 by 22, squared: 40", () -> with(head(10, 99, 98, 1, 0) + stage("a solid", 12, 0, 5, 1, 1, 9, 0, 0)), y -> y.flight(5), 40);
@@ -287,6 +312,7 @@ public final class FlightBoundaryTests extends Check {
     only("of one alone", () -> loaded(behind, 0, 1), x -> x.riskiest(), 1);
     only("-2 is less than 0", () -> with(head(1, 3, 2, 1, 1) + stage("a solid", 1, 0, 3, 1, 1, 9, 0, 0) + stage("b oil", 1, 0, 2, 1, 1, 9, 0, 0)),
         x -> x.riskiest(), 2);
+    only("all 40", () -> with(burn("solid", 1, 1, 16, 0).replace("3 by 2", "99 by 98")), x -> x.riskiest(), 1);
     sentence("31: -2 without TICKS");
     only("riskiest()", () -> loaded(behind, 0, 0), x -> x.riskiest(), -2);
     refused("riskiest() without a ROCKET", StageRatios::new, x -> x.riskiest(), -1, 1);

@@ -410,6 +410,33 @@ public final class TextBoundaryTests extends Check {
     same("the state", state(x), state(with(HEAD + A + B + C)));
   }
 
+  private static void lessBehindMore() {
+    sentence("3: of a ROCKET ahead with more STAGES nothing is left");
+    String heavy = head(40, 99, 98, 12, 99) + stage("x gas", 50, 90, 16, 9, 1, 1, 400, 8) + stage("y gas", 50, 90, 16, 9, 1, 1, 400, 8)
+        + stage("z gas", 50, 90, 16, 9, 1, 1, 400, 8) + fail("x", 1, 1) + fail("y", 1, 1) + fail("z", 1, 1) + fail("x", 2, 1) + fail("y", 2, 1) + fail("z", 2, 1);
+    for (String text : new String[] {ONE.replace("2 by 1", "3 by 2"), TWO, TWO.replace("least 150", "least 0")}) {
+      StageRatios x = new StageRatios();
+      for (int i = 0; i < 2; i++) {
+        lay(x, heavy);
+        x.bounds(2, 5, 16);
+        due("weak(2)", weakOf(x, 2), 2);
+        due("mass()", x.mass(), 358);
+        x.greatest();
+        x.flight(5);
+        x.fronts();
+        x.least(3);
+      }
+      lay(x, text);
+      StageRatios y = with(text);
+      due("greatest()", x.greatest(), y.greatest());
+      for (int i = 0; i < 4; i++) {
+        due("weak(" + i + ")", weakOf(x, i), weakOf(y, i));
+      }
+      same("the state", state(x), state(y));
+      due("the next STAGE", x.stage(x.about(5), 0), -1);
+    }
+  }
+
   private static void faultAndWhere() {
     sentence("4: fault(): 0 without one");
     StageRatios x = new StageRatios();
@@ -514,6 +541,7 @@ public final class TextBoundaryTests extends Check {
     names();
     faults();
     rocketCall();
+    lessBehindMore();
     faultAndWhere();
     facts();
     end();

@@ -154,9 +154,10 @@ abstract class Check {
     same("the state undone after " + call, state(x), state(untouched));
   }
 
-  /** The call is answered, TROUBLE is 0, and all else is as it was. */
+  /** The call is answered, TROUBLE (of a refusal ahead of it) is 0, and all else is as it was. */
   static void only(String call, Make make, Ask ask, long answer) {
     StageRatios x = make.it();
+    x.payload(0);
     due(call, ask.of(x), answer);
     due("trouble() after " + call, x.trouble(), 0);
     same("the state after " + call, state(x), state(make.it()));
