@@ -31,6 +31,17 @@ public final class TextBoundaryTests extends Check {
     due("the bytes are as they were", x.rocket(700), 1);
     due("and room again", x.feed(-1, -1, -1, -1, -1), 20);
 
+    x = Check.busy();
+    StageRatios untouched = Check.busy();
+    while (x.size(0) < 700) {
+      x.feed(BLANKS, BLANKS, BLANKS, BLANKS, BLANKS);
+    }
+    due("feed on a full one", x.feed(0, 0, 0, 0, 0), -1);
+    due("trouble()", x.trouble(), untouched.trouble());
+    same("the state", state(x).replace("tape 700", "tape 20"), state(untouched));
+    due("rocket(700)", x.rocket(700), -1);
+    due("the first bytes are as they were", x.where(), 700);
+
     sentence("I: THE TAPE has 700 bytes: a TOKEN may end with the last of them");
     x = new StageRatios();
     feedText(x, " ".repeat(700 - ONE.length()) + ONE);
@@ -435,6 +446,11 @@ public final class TextBoundaryTests extends Check {
       same("the state", state(x), state(y));
       due("the next STAGE", x.stage(x.about(5), 0), -1);
     }
+    // of 97 by 66, squared, less by 3.8 of 10 to 9
+    StageRatios x = with(heavy);
+    x.greatest();
+    lay(x, head(5, 97, 66, 2, 0) + stage("a oil", 22, 0, 8, 1, 1, 1, 0, 0) + stage("b solid", 24, 0, 6, 1, 1, 1, 0, 0));
+    due("reaches(2)", x.reaches(2), 0);
   }
 
   private static void faultAndWhere() {
